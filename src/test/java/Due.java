@@ -1,0 +1,66 @@
+/** Compares answers with the ones that are due, and counts what is wrong. */
+final class Due {
+    /** A call of the class under test. */
+    interface Call {
+        double answer();
+    }
+
+    private final String test;
+    private int checks;
+    private int wrong;
+
+    Due(String test) {
+        this.test = test;
+    }
+
+    void answers(String what, double want, double got) {
+        checks++;
+        if (!(got == want)) {
+            tell(what + " answered " + got + ", due is " + want);
+        }
+    }
+
+    void holds(String what, boolean holds) {
+        checks++;
+        if (!holds) {
+            tell(what);
+        }
+    }
+
+    /** The exception has to be of the very class: a subclass of it may be what the machine throws. */
+    void throwsIt(Class<? extends RuntimeException> want, String what, Call call) {
+        checks++;
+        try {
+            tell(what + " answered " + call.answer() + ", due is a throw of " + want.getSimpleName());
+        } catch (RuntimeException thrown) {
+            if (thrown.getClass() != want) {
+                tell(what + " threw " + thrown + ", due is " + want.getSimpleName());
+            }
+        }
+    }
+
+    void throwsIndex(String what, Call call) {
+        throwsIt(IndexOutOfBoundsException.class, what, call);
+    }
+
+    void throwsArgument(String what, Call call) {
+        throwsIt(IllegalArgumentException.class, what, call);
+    }
+
+    void throwsState(String what, Call call) {
+        throwsIt(IllegalStateException.class, what, call);
+    }
+
+    /** Ends the program: with 1 if an answer was wrong, or if nothing was checked. */
+    void end() {
+        System.out.println(test + ": " + checks + " checks, " + wrong + " wrong");
+        if (wrong > 0 || checks == 0) {
+            System.exit(1);
+        }
+    }
+
+    private void tell(String what) {
+        wrong++;
+        System.out.println(test + ": " + what);
+    }
+}
