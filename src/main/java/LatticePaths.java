@@ -13,6 +13,8 @@ public final class LatticePaths {
     private static final int MOST_PATHS = 5;
     private static final int LONGEST = 60;
     private static final int LONGEST_TEXT = 70;
+    private static final int FIRST_CODE = 33;
+    private static final int LAST_CODE = 126;
     private static final int MOST_SAVED = 6;
     private static final int SLOTS = 2;
     private static final int MOST_WAYS_STEPS = 6;
@@ -128,7 +130,7 @@ public final class LatticePaths {
     // ---- path text
 
     public int append(int code) throws IllegalArgumentException, IllegalStateException {
-        checkRange(code, PathText.FIRST_CODE, PathText.LAST_CODE);
+        checkRange(code, FIRST_CODE, LAST_CODE);
         if (text.isFull()) {
             throw new IllegalStateException("the buffer holds 70 characters");
         }
@@ -356,7 +358,7 @@ public final class LatticePaths {
         return regions.chosenRegions();
     }
 
-    private int checkedSite(int column, int row) {
+    private static int checkedSite(int column, int row) {
         int site = Lattice.number(column, row);
         if (site == NONE) {
             throw new IndexOutOfBoundsException("there is no such site");
@@ -385,15 +387,15 @@ public final class LatticePaths {
         }
     }
 
-    private void checkDirection(int direction) {
+    private static void checkDirection(int direction) {
         checkRange(direction, 0, DIRECTIONS - 1);
     }
 
-    private void checkQuarters(int quarters) {
+    private static void checkQuarters(int quarters) {
         checkRange(quarters, 1, 3);
     }
 
-    private void checkRange(int value, int least, int greatest) {
+    private static void checkRange(int value, int least, int greatest) {
         if (value < least || value > greatest) {
             throw new IllegalArgumentException("the argument is out of range");
         }
@@ -943,8 +945,6 @@ public final class LatticePaths {
 
     /** The buffer and the path text in it. */
     private static final class PathText {
-        static final int FIRST_CODE = 33;
-        static final int LAST_CODE = 126;
         private static final int HEADING = 4;
         private static final String LETTERS = "URDL";
 
@@ -1158,11 +1158,11 @@ public final class LatticePaths {
 
         void explore(Board board) {
             Arrays.fill(regionAt, NONE);
-            Arrays.fill(chosen, false);
             size = 0;
             for (int site = 0; site < SITES; site++) {
                 if (isUnseen(board, site)) {
                     siteCounts[size] = flood(board, site);
+                    chosen[size] = false;
                     size++;
                 }
             }

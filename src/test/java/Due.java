@@ -20,15 +20,38 @@ final class Due {
         }
     }
 
-    void holds(String what, boolean holds) {
+    void tells(String what, String want, String got) {
         checks++;
-        if (!holds) {
-            tell(what);
+        if (!got.equals(want)) {
+            tell(what + " told '" + got + "', due is '" + want + "'");
         }
     }
 
-    /** The exception has to be of the very class: a subclass of it may be what the machine throws. */
-    void throwsIt(Class<? extends RuntimeException> want, String what, Call call) {
+    void holds(String what, boolean holds) {
+        checks++;
+        if (!holds) {
+            tell("it does not hold that " + what);
+        }
+    }
+
+    void throwsIndex(LatticePaths x, String what, Call call) {
+        throwsIt(IndexOutOfBoundsException.class, x, what, call);
+    }
+
+    void throwsArgument(LatticePaths x, String what, Call call) {
+        throwsIt(IllegalArgumentException.class, x, what, call);
+    }
+
+    void throwsState(LatticePaths x, String what, Call call) {
+        throwsIt(IllegalStateException.class, x, what, call);
+    }
+
+    /**
+     * The exception has to be of the very class, as a subclass of it may be what the machine throws, and the call
+     * must not have changed anything.
+     */
+    private void throwsIt(Class<? extends RuntimeException> want, LatticePaths x, String what, Call call) {
+        String before = Look.at(x);
         checks++;
         try {
             tell(what + " answered " + call.answer() + ", due is a throw of " + want.getSimpleName());
@@ -37,18 +60,7 @@ final class Due {
                 tell(what + " threw " + thrown + ", due is " + want.getSimpleName());
             }
         }
-    }
-
-    void throwsIndex(String what, Call call) {
-        throwsIt(IndexOutOfBoundsException.class, what, call);
-    }
-
-    void throwsArgument(String what, Call call) {
-        throwsIt(IllegalArgumentException.class, what, call);
-    }
-
-    void throwsState(String what, Call call) {
-        throwsIt(IllegalStateException.class, what, call);
+        tells("the state behind the throw of " + what, before, Look.at(x));
     }
 
     /** Ends the program: with 1 if an answer was wrong, or if nothing was checked. */
