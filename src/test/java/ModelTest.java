@@ -140,7 +140,7 @@ public final class ModelTest {
         compare("clearBuffer");
         String text = random.nextInt(10) + "," + random.nextInt(10) + ":";
         if (random.nextInt(4) == 0) {
-            text = Look.snake(1 + random.nextInt(66));
+            text = Look.snake(1 + random.nextInt(70));
         } else {
             int letters = random.nextInt(12);
             for (int i = 0; i < letters; i++) {
