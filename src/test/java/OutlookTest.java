@@ -109,6 +109,8 @@ public final class OutlookTest {
         due.answers("the other path", 94, x.reach(1));
         x.reverse(0);
         due.answers("both regions", 95, x.reach(0));
+        x.reverse(0);
+        due.answers("only one again", 94, x.reach(0));
         due.answers("a region with two neighbours counts once", 90, Look.with("3,0:DDDDDDDDD").reach(0));
         due.answers("a trapped path", 0, Look.with("0,1:RUL").reach(0));
         due.answers("a hole alone", 1, Look.with("1,0:DL", "0,2:").reach(0));

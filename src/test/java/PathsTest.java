@@ -42,6 +42,7 @@ public final class PathsTest {
         due.answers("free sites of a new object", 100, x.free(0));
         for (int site = 0; site < 100; site++) {
             due.answers("the path at " + site, -1, x.site(site % 10, site / 10, 0));
+            due.answers("the number at " + site, -1, x.site(site % 10, site / 10, 1));
         }
         due.throwsState(x, "undo() of a new object", () -> x.undo());
         due.throwsState(x, "goBack(0) of a new object", () -> x.goBack(0));
@@ -136,6 +137,7 @@ public final class PathsTest {
         due.answers("back of 3 sites", 2, x.back(0));
         due.tells("its sites", "44 45", Look.sites(x, 0));
         due.answers("the site that was left", -1, x.site(5, 5, 0));
+        due.answers("the number at the site that was left", -1, x.site(5, 5, 1));
         due.answers("back of 2 sites", 1, x.back(0));
         due.throwsState(x, "back of 1 site", () -> x.back(0));
         due.throwsIndex(x, "back(1)", () -> x.back(1));

@@ -140,6 +140,8 @@ public final class SitesTest {
 
     private static void border() {
         due.answers("a corner of the lattice", 2, Look.with("0,0:").path(0, 8));
+        due.answers("beside the first corner", 3, Look.with("1,0:").path(0, 8));
+        due.answers("beside the last corner", 3, Look.with("8,9:").path(0, 8));
         due.answers("two sites", 6, Look.with("4,4:R").path(0, 8));
         due.answers("a site inside counts once", 7, Look.with("4,4:RD").path(0, 8));
         due.answers("what is not free does not count", 5, Look.with("4,4:R", "3,4:").path(0, 8));
@@ -292,6 +294,9 @@ public final class SitesTest {
         due.answers("the greatest one", 60, x.free(2));
         due.answers("all three at heads", 3, x.free(3));
         due.answers("the free sites", 87, x.free(0));
+        due.answers("a region that goes down and up again", 1, Look.with("1,0:DDDDDDDD").free(1));
+        due.answers("a region that goes up and down again", 1, Look.with("1,1:DDDDDDDD").free(1));
+        due.answers("a region that goes left and right again", 1, Look.with("1,1:RRRRRRRR").free(1));
         LatticePaths corner = Look.with("1,0:", "0,1:");
         due.answers("sites that meet at their corners alone are in two regions", 2, corner.free(1));
     }
@@ -322,6 +327,8 @@ public final class SitesTest {
         due.answers("only one of them at the head", 1, z.free(3));
         z.reverse(0);
         due.answers("both at the other end", 2, z.free(3));
+        z.reverse(0);
+        due.answers("only one again", 1, z.free(3));
     }
 
     private static void freeWrongly() {

@@ -42,6 +42,10 @@ public final class UndoTest {
         undone("remove", () -> x.remove(0), x);
         LatticePaths y = Look.with("0,0:R", "3,0:L", "9,9:");
         undone("join", () -> y.join(1, 0), y);
+        LatticePaths five = Look.with("0,0:R", "3,0:L", "9,9:", "5,5:RRU", "0,9:UU");
+        undone("remove of one of five", () -> five.remove(4), five);
+        undone("join of two of five", () -> five.join(0, 1), five);
+        undone("step of the last of five", () -> five.step(4, 0), five);
         LatticePaths z = Look.with("0,0:R");
         Look.type(z, "5,5:U");
         z.draw();
@@ -95,6 +99,7 @@ public final class UndoTest {
         due.answers("the first undo", 1, x.undo());
         due.answers("the second undo", 0, x.undo());
         due.answers("the paths", 0, x.count(0));
+        due.answers("the path at a site that was left", -1, x.site(2, 2, 0));
         due.throwsState(x, "the third undo", () -> x.undo());
         due.answers("a start afterwards", 0, x.start(2, 2));
         due.answers("the saved states", 1, x.count(5));
