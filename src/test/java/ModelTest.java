@@ -4,6 +4,9 @@ import java.util.Random;
 public final class ModelTest {
     private static final int RUNS = 600;
     private static final int CALLS = 512;
+    private static final int[] EXTREMES = {
+        Integer.MIN_VALUE, Integer.MIN_VALUE + 1, -100, -1, 100, 65536 + 'U', Integer.MAX_VALUE - 1, Integer.MAX_VALUE,
+    };
 
     private static final String[] CHANGES = {
         "start", "step", "step", "step", "step", "step", "step", "back", "slither", "slither", "turn", "turn",
@@ -213,6 +216,9 @@ public final class ModelTest {
             return;
         }
         calls++;
+        if (a.length > 0 && random.nextInt(150) == 0) {
+            a[random.nextInt(a.length)] = EXTREMES[random.nextInt(EXTREMES.length)];
+        }
         told.append(name);
         for (int argument : a) {
             told.append(' ').append(argument);
