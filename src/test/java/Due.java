@@ -6,11 +6,21 @@ final class Due {
     }
 
     private final String test;
+    private String part = "";
     private int checks;
     private int wrong;
 
     Due(String test) {
         this.test = test;
+    }
+
+    /** What is wrong from here on is told with the part of the test in which it was found. */
+    void under(String part) {
+        this.part = part + ": ";
+    }
+
+    int checks() {
+        return checks;
     }
 
     void answers(String what, double want, double got) {
@@ -73,6 +83,6 @@ final class Due {
 
     private void tell(String what) {
         wrong++;
-        System.out.println(test + ": " + what);
+        System.out.println(test + ": " + part + what);
     }
 }

@@ -1,3 +1,5 @@
+import java.util.Arrays;
+
 /** Tells everything that can be seen of an object without changing it, and makes objects from texts. */
 final class Look {
     private Look() {
@@ -22,6 +24,64 @@ final class Look {
             told.append(place == 0 ? "" : " ").append(x.place(path, place));
         }
         return told.toString();
+    }
+
+    /** The path and the number in it for each site that is not free, as the paths tell. */
+    static String sitesOfPaths(LatticePaths x) {
+        String[] marks = new String[100];
+        for (int path = 0; path < x.count(0); path++) {
+            for (int place = 0; place < x.path(path, 0); place++) {
+                marks[x.place(path, place)] = path + "." + place;
+            }
+        }
+        return Arrays.toString(marks);
+    }
+
+    /** The same, as the sites tell: a free site has neither a path nor a number. */
+    static String marks(LatticePaths x) {
+        String[] marks = new String[100];
+        for (int site = 0; site < 100; site++) {
+            int path = x.site(site % 10, site / 10, 0);
+            int number = x.site(site % 10, site / 10, 1);
+            if (path != -1 || number != -1) {
+                marks[site] = path + "." + number;
+            }
+        }
+        return Arrays.toString(marks);
+    }
+
+    /**
+     * Tells all that an object holds, which ends with an object without paths: the saved states by undoing them, the
+     * snapshots by going back to them, and the buffer by reading it.
+     */
+    static String drained(LatticePaths x) {
+        StringBuilder told = new StringBuilder(at(x));
+        while (x.count(5) > 0) {
+            told.append("\nundone ").append(x.undo()).append(' ').append(at(x));
+        }
+        for (int slot = 0; slot < 2; slot++) {
+            told.append("\nslot ").append(slot).append(' ').append(wentBack(x, slot)).append(' ').append(at(x));
+        }
+        while (x.count(0) > 0) {
+            x.remove(0);
+        }
+        return told.append("\nread ").append(read(x)).append(' ').append(at(x)).toString();
+    }
+
+    private static String wentBack(LatticePaths x, int slot) {
+        try {
+            return "" + x.goBack(slot);
+        } catch (IllegalStateException thrown) {
+            return "empty";
+        }
+    }
+
+    private static String read(LatticePaths x) {
+        try {
+            return "" + x.draw();
+        } catch (IllegalArgumentException | IllegalStateException thrown) {
+            return thrown.getClass().getSimpleName();
+        }
     }
 
     /** A new object with the paths of the texts. */
@@ -61,5 +121,10 @@ final class Look {
             }
         }
         return text.toString();
+    }
+
+    /** Sixty sites in the first six rows, of which the last one, at column 0 and row 1, is below the first one. */
+    static String ring() {
+        return "0,0:RRRRRRRRRDLLLLLLLLDRRRRRRRRDLLLLLLLLDRRRRRRRRDLLLLLLLLLUUUU";
     }
 }
