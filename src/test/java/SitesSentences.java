@@ -181,6 +181,8 @@ final class SitesSentences {
         number(0, 2, "4,4:RDRDRD");
         number(1, 2, "4,4:RDL");
         number(2, 2, "4,4:RRDLL");
+        number(1, 2, "0,1:RUL");
+        number(1, 2, "9,8:LDR");
         number(4, 2, "4,4:RDLLUURRR");
         number(0, 2, "4,4:RRR", "4,5:RRR");
         // the last site of a row and the first one of the next are no neighbours
