@@ -126,6 +126,29 @@ public final class FaceTest {
                 due.holds(field + " is no static state",
                         !Modifier.isStatic(field.getModifiers()) || Modifier.isFinal(field.getModifiers()));
             }
+            checkNames(due, inside);
+            checkFewFields(due, inside);
         }
+        checkFewFields(due, LatticePaths.class);
+    }
+
+    /** No private method bears the name of a public one, in the classes inside neither. */
+    private static void checkNames(Due due, Class<?> inside) {
+        for (Method method : inside.getDeclaredMethods()) {
+            if (Modifier.isPrivate(method.getModifiers())) {
+                for (String call : FACE) {
+                    due.holds(method + " has another name than " + call,
+                            !call.contains(" " + method.getName() + "("));
+                }
+            }
+        }
+    }
+
+    private static void checkFewFields(Due due, Class<?> type) {
+        int fields = 0;
+        for (Field field : type.getDeclaredFields()) {
+            fields += Modifier.isStatic(field.getModifiers()) ? 0 : 1;
+        }
+        due.holds(type + " has at most twenty fields", fields <= 20);
     }
 }
